@@ -32,6 +32,8 @@ public final class PromisesTest {
         heir();
         heirByOrder();
         heirOfSiblings();
+        heirsOfDaughters();
+        heirOfOneself();
         heirTwice();
         told();
         suited();
@@ -448,6 +450,7 @@ public final class PromisesTest {
         check.due("one not as a part", y.rod(0, 2, 1, 2), false);
         check.due("that one", y.rod(0, 1, 1, 2), true);
         holders(y, 0, 0, 1, 1, 1, NONE, NONE, NONE, 2);
+        check.due("only parts are left", y.rod(0, 1, 1, 2), false);
     }
 
     private static void weeks() {
@@ -876,6 +879,37 @@ public final class PromisesTest {
         heirs(x, 4, 2);
         x.die(4);
         heirs(x, 2);
+    }
+
+    private static void heirsOfDaughters() {
+        check.begin("17 daughters are heirs all together");
+        ManorRolls x = withMen(1);
+        x.person(1, 0, NONE);
+        x.person(1, 0, NONE);
+        x.person(1, NONE, 2);
+        x.person(1, NONE, 2);
+        for (int order = 0; order < 3; order++) {
+            x.custom(order * 100000, 0);
+            heirs(x, 0, 1, 2);
+        }
+        x.die(2);
+        for (int order = 0; order < 3; order++) {
+            x.custom(order * 100000, 0);
+            heirs(x, 0, 1, 3, 4);
+        }
+    }
+
+    private static void heirOfOneself() {
+        check.begin("17 nobody is their own heir");
+        ManorRolls x = withMen(1);
+        x.person(1, 0, NONE);
+        x.person(0, 0, 1);
+        x.grant(0, 2, 2);
+        heirs(x, 2, 1);
+        x.die(1);
+        heirs(x, 2);
+        check.due("die(2)", x.die(2), 2);
+        check.due("back to the lord", x.count(4), 120);
     }
 
     private static void heirTwice() {
