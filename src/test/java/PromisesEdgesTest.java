@@ -54,6 +54,7 @@ public final class PromisesEdgesTest {
         told();
         suited();
         count();
+        askingChangesNothing();
         check.end();
     }
 
@@ -151,6 +152,8 @@ public final class PromisesEdgesTest {
     // Promise 1
 
     private static void newObject() {
+        check.begin("the constants");
+        check.due("NONE", ManorRolls.NONE, -1);
         noPersons();
         allIsRefusedWithoutPersons();
         objectsAreApart();
@@ -1192,5 +1195,29 @@ public final class PromisesEdgesTest {
         x.due(120, "die", 0);
         x.due(120, "count", 4);
         x.due(360, "count", 7);
+    }
+
+    // Promises 15 to 20
+
+    private static void askingChangesNothing() {
+        Taped x = manor("15 to 20: asking changes nothing");
+        for (int p = 0; p < CAME; p++) {
+            x.changesNothing("heir", p, 0);
+            for (int what = 0; what <= 13; what++) {
+                x.changesNothing("told", p, what);
+            }
+        }
+        for (int suit = 0; suit < SUITS; suit++) {
+            for (int what = 0; what <= 2; what++) {
+                x.changesNothing("suited", suit, what);
+            }
+        }
+        for (int what = 0; what <= 7; what++) {
+            x.changesNothing("count", what);
+        }
+        for (int strip = 0; strip <= 11; strip++) {
+            x.changesNothing("holder", 0, strip, 13);
+            x.changesNothing("right", 0, strip, NOW, 1, 1);
+        }
     }
 }

@@ -43,11 +43,18 @@ final class Taped {
     /** Makes a call on an object of its own: the answer is due, and nothing is otherwise for it, then or later. */
     void refused(int want, String name, int... args) {
         Call call = new Call(name, args);
+        check.due(call.toString(), copy().make(call), want);
+        changesNothing(name, args);
+    }
+
+    /** Makes a call on an object of its own: all that can be asked is as it is without the call, then and later. */
+    void changesNothing(String name, int... args) {
         if (before == null) {
             before = new Look(this);
         }
+        Call call = new Call(name, args);
         Taped other = copy();
-        check.due(call.toString(), other.make(call), want);
+        other.make(call);
         before.holdAgainst(check, other, call);
     }
 
@@ -133,7 +140,7 @@ final class Taped {
         }
     }
 
-    /** Calls that bring out what can't be asked: the custom in force, and what will be at the next court. */
+    /** Calls that bring out what can't be asked: the custom in force, what will be at the next court, and the like. */
     private List<Call> laterCalls() {
         List<Call> all = new ArrayList<>();
         int people = copy().call("count", 1);
@@ -151,7 +158,8 @@ final class Taped {
             all.add(new Call("grant", holding, 5, people));
             all.add(new Call("rod", holding, 1, people, people + 1));
         }
-        for (int p = people; p >= 0; p--) {
+        // the last one lives on, and would be the heir of one who has a child too many
+        for (int p = 0; p <= people; p++) {
             all.add(new Call("die", p));
         }
         all.add(new Call("weeks", 1));

@@ -917,9 +917,12 @@ public final class TermsEdgesTest {
         x.refused(NO, "marry", 2, 1);
         x.due(0, "die", 0);
         x.due(NONE, "told", 1, 4);
+        x.due(NONE, "told", 0, 4);
         x.due(YES, "marry", 2, 1);
+        x.due(NONE, "told", 0, 4);
         x.due(0, "die", 1);
         x.due(NONE, "told", 2, 4);
+        x.due(NONE, "told", 1, 4);
         x.due(YES, "marry", 2, 3);
         x.due(3, "told", 2, 4);
     }
