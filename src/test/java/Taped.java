@@ -102,7 +102,10 @@ final class Taped {
         return answers;
     }
 
-    /** All that can be asked of the object, one person and one suit more than there are. */
+    /**
+     * What can be asked of the object, of one person and one suit more than there are; of strips on the days that a
+     * call of weeks ended on, and of rights as many steps ahead as runs with refusals go.
+     */
     private List<Call> questions() {
         List<Call> all = new ArrayList<>();
         for (int what = 0; what < 8; what++) {
