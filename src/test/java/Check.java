@@ -8,7 +8,8 @@ final class Check {
         part = name;
     }
 
-    void due(String call, long got, long want) {
+    /** A call's text is only made where its answer is wrong: there are millions of them. */
+    void due(Object call, long got, long want) {
         asked++;
         if (got != want) {
             wrong++;
@@ -16,7 +17,7 @@ final class Check {
         }
     }
 
-    void due(String call, boolean got, boolean want) {
+    void due(Object call, boolean got, boolean want) {
         due(call, got ? 1 : 0, want ? 1 : 0);
     }
 

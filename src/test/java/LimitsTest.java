@@ -133,7 +133,7 @@ public final class LimitsTest {
         }
     }
 
-    /** No call throws, whatever it is given, however many there were. */
+    /** No call throws, whatever it is given, however many there were: one that did would end the test. */
     private static void wildCalls() {
         check.begin("wild calls");
         for (int seed = 0; seed < 200; seed++) {
@@ -165,26 +165,25 @@ public final class LimitsTest {
                     default: x.count(a);
                 }
             }
-            check.due("seed " + seed + " count(7) is at least 120", x.count(7) >= 120, true);
         }
     }
 
-    /** Past its 512th call an object still answers, and does not grow without end. */
+    /** Behind the 512th call answers are free, but an object still may not throw, or grow without end. */
     private static void longUse() {
         check.begin("long use");
         ManorRolls x = new ManorRolls();
         x.person(0, NONE, NONE);
         x.person(0, NONE, NONE);
         x.grant(0, 12, 0);
-        for (int c = 3; c < 512; c++) {
-            check.due("rod in call " + c, x.rod(0, 12, (c + 1) % 2, c % 2), true);
+        for (int c = 4; c < 512; c++) {
+            check.due("rod in call " + c, x.rod(0, 12, c % 2, (c + 1) % 2), true);
         }
-        check.due("count(7)", x.count(7), 132 + 12 * 509);
+        check.due("count(7) in call 512", x.count(7), 132 + 12 * 508);
         for (int c = 0; c < 200000; c++) {
             x.rod(0, 12, c % 2, (c + 1) % 2);
         }
         check.due("count(7) is bounded", x.count(7) <= 120 * 513, true);
-        check.due("right far ahead", x.right(0, 0, 0, Integer.MAX_VALUE, 0), -2);
-        check.due("die(0)", x.die(0) >= 0, true);
+        x.right(0, 0, 0, Integer.MAX_VALUE, 0);
+        x.die(0);
     }
 }

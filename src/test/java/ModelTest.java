@@ -6,8 +6,9 @@ import java.util.Random;
 public final class ModelTest {
     private static final int NONE = -1;
     private static final int RUNS = 1500;
-    private static final int CALLS = 512;
     private static final int FULL_LOOKS = 40;
+    // A look is taken on objects with the same calls; of the 512 of each there must be enough left for it.
+    private static final int LAST_LOOK = 400;
     private static final Check check = new Check();
 
     public static void main(String[] args) {
@@ -19,7 +20,7 @@ public final class ModelTest {
 
     private static final class Run {
         final Random random;
-        final ManorRolls real = new ManorRolls();
+        final Taped real = new Taped(check);
         final Model model = new Model();
         final int persons;
         final boolean closeKin;
@@ -32,13 +33,12 @@ public final class ModelTest {
         }
 
         void go() {
-            for (int c = 0; c < CALLS && check.wrong() < 20; c++) {
+            while (real.made() < Taped.MOST_CALLS && check.wrong() < 20) {
                 call();
-                if (c % FULL_LOOKS == FULL_LOOKS - 1) {
+                if (real.made() % FULL_LOOKS == 0 && real.made() <= LAST_LOOK) {
                     lookAtAll();
                 }
             }
-            lookAtAll();
         }
 
         int below(int bound) {
@@ -96,30 +96,28 @@ public final class ModelTest {
                 int sex = about(0, 1);
                 int father = parent(0);
                 int mother = parent(1);
-                check.due("person(" + sex + ", " + father + ", " + mother + ")",
-                    real.person(sex, father, mother), model.person(sex, father, mother));
+                real.due(model.person(sex, father, mother), "person", sex, father, mother);
             } else if (kind < 20) {
                 int what = someCustom();
                 int dues = below(12) == 0 ? random.nextInt() : below(1000000);
-                check.due("custom(" + what + ", " + dues + ")", real.custom(what, dues), model.custom(what, dues));
+                real.due(model.custom(what, dues), "custom", what, dues);
             } else if (kind < 27) {
                 int man = someone(0);
                 int woman = someone(1);
-                check.due("marry(" + man + ", " + woman + ")", real.marry(man, woman), model.marry(man, woman));
+                real.due(asInt(model.marry(man, woman)), "marry", man, woman);
             } else if (kind < 34) {
                 int person = anyone();
-                check.due("die(" + person + ")", real.die(person), model.die(person));
+                real.due(model.die(person), "die", person);
             } else if (kind < 44) {
                 int holding = about(0, 9);
                 int n = about(1, 12);
                 int person = anyone();
-                check.due("grant(" + holding + ", " + n + ", " + person + ")",
-                    real.grant(holding, n, person), model.grant(holding, n, person));
+                real.due(asInt(model.grant(holding, n, person)), "grant", holding, n, person);
             } else if (kind < 54) {
                 callRod();
             } else if (kind < 62) {
                 int n = below(6) == 0 ? about(0, 60) : about(0, 5);
-                check.due("weeks(" + n + ")", real.weeks(n), model.weeks(n));
+                real.due(model.weeks(n), "weeks", n);
             } else {
                 callMore(kind);
             }
@@ -134,34 +132,31 @@ public final class ModelTest {
                 holding = about(0, 9);
                 from = anyone();
             }
-            check.due("rod(" + holding + ", " + n + ", " + from + ", " + to + ")",
-                real.rod(holding, n, from, to), model.rod(holding, n, from, to));
+            real.due(asInt(model.rod(holding, n, from, to)), "rod", holding, n, from, to);
         }
 
         void callMore(int kind) {
             int person = anyone();
             if (kind < 66) {
                 int n = about(0, 60);
-                check.due("sick(" + person + ", " + n + ")", real.sick(person, n), model.sick(person, n));
+                real.due(asInt(model.sick(person, n)), "sick", person, n);
             } else if (kind < 71) {
                 int n = about(1, Math.max(1, model.told(person, 9)));
                 boolean sold = random.nextBoolean();
-                check.due("works(" + person + ", " + n + ", " + sold + ")",
-                    real.works(person, n, sold), model.works(person, n, sold));
+                real.due(model.works(person, n, sold), "works", person, n, asInt(sold));
             } else if (kind < 75) {
                 int n = about(1, Math.max(1, model.told(person, 8)));
-                check.due("pay(" + person + ", " + n + ")", real.pay(person, n), model.pay(person, n));
+                real.due(model.pay(person, n), "pay", person, n);
             } else if (kind < 79) {
                 int against = anyone();
                 int pledge = anyone();
-                check.due("suit(" + person + ", " + against + ", " + pledge + ")",
-                    real.suit(person, against, pledge), model.suit(person, against, pledge));
+                real.due(model.suit(person, against, pledge), "suit", person, against, pledge);
             } else if (kind < 84) {
                 int suit = about(0, model.suits.size() - 1);
                 int what = about(0, 3);
-                check.due("appear(" + suit + ", " + what + ")", real.appear(suit, what), model.appear(suit, what));
+                real.due(asInt(model.appear(suit, what)), "appear", suit, what);
             } else if (kind < 87) {
-                check.due("court()", real.court(), model.court());
+                real.due(model.court(), "court");
             } else {
                 ask(kind, person);
             }
@@ -171,56 +166,76 @@ public final class ModelTest {
             int holding = about(0, 9);
             int strip = about(0, 11);
             int day = below(2) == 0 ? model.now : about(0, model.now);
-            int what = about(0, 13);
             if (kind < 89) {
-                check.due("holder(" + holding + ", " + strip + ", " + day + ")",
-                    real.holder(holding, strip, day), model.holder(holding, strip, day));
+                real.due(model.holder(holding, strip, day), "holder", holding, strip, day);
             } else if (kind < 92) {
                 int k = about(0, 4);
-                what = about(0, 2);
-                check.due("right(" + holding + ", " + strip + ", " + day + ", " + k + ", " + what + ")",
-                    real.right(holding, strip, day, k, what), model.right(holding, strip, day, k, what));
+                int what = about(0, 2);
+                real.due(model.right(holding, strip, day, k, what), "right", holding, strip, day, k, what);
             } else if (kind < 95) {
                 int i = below(3) == 0 ? about(0, 39) : about(0, 3);
-                check.due("heir(" + person + ", " + i + ")", real.heir(person, i), model.heir(person, i));
+                real.due(model.heir(person, i), "heir", person, i);
             } else if (kind < 97) {
-                check.due("told(" + person + ", " + what + ")", real.told(person, what), model.told(person, what));
+                int what = about(0, 13);
+                real.due(model.told(person, what), "told", person, what);
             } else if (kind < 99) {
                 int suit = about(0, model.suits.size() - 1);
-                what = about(0, 2);
-                check.due("suited(" + suit + ", " + what + ")", real.suited(suit, what), model.suited(suit, what));
+                int what = about(0, 2);
+                real.due(model.suited(suit, what), "suited", suit, what);
             } else {
-                what = about(0, 7);
-                check.due("count(" + what + ")", real.count(what), model.count(what));
+                int what = about(0, 7);
+                real.due(model.count(what), "count", what);
             }
         }
 
         void lookAtAll() {
+            Asked asked = new Asked();
             for (int what = -1; what <= 8; what++) {
-                check.due("look: count(" + what + ")", real.count(what), model.count(what));
+                asked.add(model.count(what), "count", what);
             }
             for (int p = -1; p <= model.people.size(); p++) {
                 for (int what = -1; what <= 14; what++) {
-                    check.due("look: told(" + p + ", " + what + ")", real.told(p, what), model.told(p, what));
+                    asked.add(model.told(p, what), "told", p, what);
                 }
                 for (int i = -1; i <= 6; i++) {
-                    check.due("look: heir(" + p + ", " + i + ")", real.heir(p, i), model.heir(p, i));
+                    asked.add(model.heir(p, i), "heir", p, i);
                 }
             }
             for (int s = -1; s <= model.suits.size(); s++) {
                 for (int what = -1; what <= 3; what++) {
-                    check.due("look: suited(" + s + ", " + what + ")", real.suited(s, what), model.suited(s, what));
+                    asked.add(model.suited(s, what), "suited", s, what);
                 }
             }
-            for (int place = 0; place < 120; place++) {
-                for (int k = 0; k < 4; k++) {
-                    for (int what = 0; what < 3; what++) {
-                        check.due("look: right(" + place / 12 + ", " + place % 12 + ", " + model.now + ", " + k + ", "
-                            + what + ")", real.right(place / 12, place % 12, model.now, k, what),
-                            model.right(place / 12, place % 12, model.now, k, what));
+            lookAtStrips(asked);
+            real.dueAll(asked.wants, asked.calls);
+        }
+
+        void lookAtStrips(Asked asked) {
+            int now = model.now;
+            for (int holding = 0; holding < 10; holding++) {
+                for (int strip = 0; strip < 12; strip++) {
+                    for (int k = 0; k < 4; k++) {
+                        for (int what = 0; what < 3; what++) {
+                            asked.add(model.right(holding, strip, now, k, what), "right", holding, strip, now, k, what);
+                        }
                     }
                 }
             }
+        }
+
+        static int asInt(boolean answer) {
+            return answer ? 1 : 0;
+        }
+    }
+
+    /** Calls, each with the answer that is due. */
+    private static final class Asked {
+        final List<Call> calls = new ArrayList<>();
+        final List<Integer> wants = new ArrayList<>();
+
+        void add(int want, String name, int... args) {
+            calls.add(new Call(name, args));
+            wants.add(want);
         }
     }
 

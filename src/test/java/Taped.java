@@ -28,7 +28,7 @@ final class Taped {
     /** Makes a call whose answer is known. */
     void due(int want, String name, int... args) {
         Call call = new Call(name, args);
-        check.due(call.toString(), make(call), want);
+        check.due(call, make(call), want);
     }
 
     /** Holds the answers of a call for 0, 1, 2 .. as its last argument against those that are due. */
@@ -40,10 +40,18 @@ final class Taped {
         }
     }
 
+    /** Asks objects of their own with the same calls: the answers are due. */
+    void dueAll(List<Integer> want, List<Call> questions) {
+        int[] got = answers(questions);
+        for (int i = 0; i < got.length; i++) {
+            check.due(questions.get(i), got[i], want.get(i));
+        }
+    }
+
     /** Makes a call on an object of its own: the answer is due, and nothing is otherwise for it, then or later. */
     void refused(int want, String name, int... args) {
         Call call = new Call(name, args);
-        check.due(call.toString(), copy().make(call), want);
+        check.due(call, copy().make(call), want);
         changesNothing(name, args);
     }
 
