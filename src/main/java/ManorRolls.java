@@ -353,7 +353,7 @@ public final class ManorRolls {
     private void passPicked(int first, int person) {
         heirs.share(person, inForce.order, land.pickedCount - first);
         for (int i = first; i < land.pickedCount; i++) {
-            int taker = heirs.takers[i - first];
+            int taker = heirs.takerOf(i - first);
             land.bringPicked(i, i + 1, taker, taker == NONE ? BACK_TO_LORD : BY_HEIRS, now);
         }
     }
@@ -517,7 +517,7 @@ public final class ManorRolls {
     private static final class Heirs {
         final int[] list = new int[MOST_HEIRS_TOLD];
         int listed;
-        final int[] takers = new int[STRIPS];
+        private final int[] takers = new int[STRIPS];
         private final People people;
         private int order;
         private long living;
@@ -541,6 +541,11 @@ public final class ManorRolls {
                 takers[i] = NONE;
             }
             shareLine(firstLine(person), 0, Math.min(n, takers.length), 0);
+        }
+
+        /** Who takes one of the strips that were shared last, or NONE. */
+        int takerOf(int strip) {
+            return strip >= 0 && strip < takers.length ? takers[strip] : NONE;
         }
 
         /** Notes who lives, and who lasts: is alive, or has someone alive below them. */
@@ -641,7 +646,7 @@ public final class ManorRolls {
         }
 
         private void give(int person, int from, int n) {
-            for (int i = from; i < from + n && i < takers.length; i++) {
+            for (int i = Math.max(from, 0); i < from + n && i < takers.length; i++) {
                 takers[i] = person;
             }
         }
@@ -679,7 +684,7 @@ public final class ManorRolls {
         /** Picks the strips of a holding that one holds: either the widow's parts or the others. */
         void pick(int holding, int holder, boolean parts) {
             pickedCount = 0;
-            for (int s = 0; s < STRIPS; s++) {
+            for (int s = 0; s < STRIPS && pickedCount < picked.length; s++) {
                 int place = holding * STRIPS + s;
                 Right held = find(place);
                 if (held != null && held.holder == holder && (held.how == WIDOWS_PART) == parts) {
